@@ -978,7 +978,7 @@ public final class PenniesAway {
             return need >= NO_WAY ? NONE : spanOf(c) - about(c, AGE) - need;
         }
 
-        private boolean lateBy(int slack) {
+        private static boolean isLate(int slack) {
             return slack != NONE && slack < 0;
         }
 
@@ -991,21 +991,23 @@ public final class PenniesAway {
         int lateCoins() {
             int bits = 0;
             for (int c = 0; c < coins; c++) {
-                if (lateBy(slackOf(c))) {
+                if (isLate(slackOf(c))) {
                     bits |= 1 << c;
                 }
             }
             return bits;
         }
 
-        private boolean canBeSaved(int c) {
-            return withHolder(c) && slackOf(c) >= 0;
+        /** NONE for those that are not with holders: they cannot be taken home now. */
+        private int slackAtHolder(int c) {
+            return withHolder(c) ? slackWithMint(c, MINT) : NONE;
         }
 
         int coinsToGo(int n) {
             int bits = 0;
             for (int c = 0; c < coins; c++) {
-                if (canBeSaved(c) && slackOf(c) < n) {
+                int slack = slackAtHolder(c);
+                if (slack >= 0 && slack < n) {
                     bits |= 1 << c;
                 }
             }
@@ -1025,8 +1027,9 @@ public final class PenniesAway {
             int best = 0;
             int least = NO_WAY;
             for (int c = 0; c < coins; c++) {
-                if ((takenBits >> c & 1) == 0 && canBeSaved(c) && slackOf(c) < least) {
-                    least = slackOf(c);
+                int slack = slackAtHolder(c);
+                if ((takenBits >> c & 1) == 0 && slack >= 0 && slack < least) {
+                    least = slack;
                     best = 1 << c;
                 }
             }
@@ -1057,7 +1060,7 @@ public final class PenniesAway {
         int lateWithMint(int town) {
             int n = 0;
             for (int c = 0; c < coins; c++) {
-                if (lateBy(slackWithMint(c, town))) {
+                if (isLate(slackWithMint(c, town))) {
                     n++;
                 }
             }

@@ -310,6 +310,9 @@ public final class ActsTest {
     x = Texts.with("law 1;road 0 1 1;holder 1;coin old 0 0;");
     C.due("no span", x.coin(0, 5), 0);
     C.due("no worth", x.coin(0, 7), 0);
+    x = Texts.with("law 9;road 0 1 5;holder 1;coin silver 0 3;coin silver 0 4;");
+    C.due("worth of a day", x.coin(0, 7), 11);
+    C.due("worth of none", x.coin(1, 7), 0);
   }
 
   private static void far() {

@@ -11,6 +11,7 @@ public final class ForetoldTest {
     late();
     mustGo();
     save();
+    fewerCoins();
     tour();
     tourSaves();
     mint();
@@ -80,6 +81,34 @@ public final class ForetoldTest {
     C.due("nothing changes", x.count(4), 0);
     x.send(1);
     C.due("save(1)", x.save(1), 1 << 3);
+    x = Texts.with("law 5;road 0 1 5;holder 1;coin silver 0 1;coin forged 0 0;");
+    C.due("none can be saved", x.save(12), 0);
+  }
+
+  /** Coins of a realm that was before are no coins of this one. */
+  private static void fewerCoins() {
+    String road = "law 9;road 0 1 5;holder 1;";
+    PenniesAway x = Texts.with(road + "coin old 0 5;".repeat(12));
+    C.due("late()", x.late(), 4095);
+    C.due("days(1)", x.days(1), 4095);
+    Texts.read(x, road);
+    C.due("late()", x.late(), 0);
+    C.due("mustGo(400)", x.mustGo(400), 0);
+    C.due("save(12)", x.save(12), 0);
+    C.due("tour(1, -2)", x.tour(1, -2), 0);
+    C.due("mint(1)", x.mint(1), 0);
+    C.due("sounds(1, 0)", x.sounds(1, 0), 0);
+    C.due("days(99)", x.days(99), 0);
+    C.due("count(5)", x.count(5), 0);
+    Texts.read(x, road + "coin silver 0 0;".repeat(12));
+    C.due("mustGo(5)", x.mustGo(5), 4095);
+    C.due("save(5)", x.save(5), 31);
+    C.due("save(12)", x.save(12), 4095);
+    C.due("sounds(1, 9)", x.sounds(1, 9), 12);
+    x.send(11);
+    C.due("flood(1)", x.flood(1), 1);
+    C.due("late()", x.late(), 1 << 11);
+    C.due("mint(1)", x.mint(1), 1);
   }
 
   private static void tour() {
@@ -260,7 +289,10 @@ public final class ForetoldTest {
     C.due("dumb", x.count(5), 6);
     C.due("image(0) anew", x.image(0), 1);
     x.days(1);
+    C.due("count(4)", x.count(4), 1);
     x.restore(0);
     C.due("day", x.count(3), 106);
+    C.due("count(4)", x.count(4), 0);
+    C.due("no act can be undone", x.undo(), STATE);
   }
 }

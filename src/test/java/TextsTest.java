@@ -62,6 +62,9 @@ public final class TextsTest {
     fault("law 1 ", 6, 1);
     fault("lax 1;", 0, 1);
     fault("lawx 1;", 0, 1);
+    fault("saw 1;", 0, 1);
+    fault("law 1;zoad 0 1 1;", 6, 1);
+    fault("law 1;holder 1;coin cold 0 0;", 20, 1);
     fault("la 1;", 0, 1);
     fault("Law 1;", 0, 1);
     fault("1 law;", 0, 1);
