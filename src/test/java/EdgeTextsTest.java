@@ -157,6 +157,12 @@ public final class EdgeTextsTest {
     fault("law 1;holder 0001;", 13, 1);
     fault("law 1;" + HOLDER + "coin old 0000 0;", 24, 1);
     fault("law 1;" + HOLDER + "coin old 0 0000;", 26, 1);
+    // and where the text could end
+    fault("1234", 0, 1);
+    fault("law 1;1234", 6, 1);
+    fault("law 1;" + ROAD + "0000", 17, 1);
+    fault("law 1;" + HOLDER + "0000", 15, 1);
+    fault("law 1;" + HOLDER + COIN + "0000", 28, 1);
   }
 
   private static void bytesOfEachSort() {
